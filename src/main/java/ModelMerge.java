@@ -186,7 +186,6 @@ public final class ModelMerge {
         }
         given.phase = OPEN;
         pending = null;
-        conflicts.clear();
         return given.number;
     }
 
@@ -430,6 +429,7 @@ public final class ModelMerge {
         State base = joining.base.state;
         State mine = latest.state;
         State theirs = joining.state;
+        // Here alone the rows are emptied: without a pending session nobody reads them.
         conflicts.clear();
         for (int thing = 0; thing < thingCount; thing++) {
             if (isDroppedAndChanged(base, mine, theirs, thing)) {
@@ -464,6 +464,8 @@ public final class ModelMerge {
         return false;
     }
 
+    // join() has seen that there is room, and no other version comes while a session is pending;
+    // the test stands here all the same, beside the index that it guards.
     private void finishJoining(Session joining) {
         if (versionCount >= VERSIONS) {
             return;
@@ -477,7 +479,6 @@ public final class ModelMerge {
         joining.phase = OVER;
         joining.madeVersion = number;
         pending = null;
-        conflicts.clear();
     }
 
     private State joinedState(Session joining) {

@@ -1,3 +1,6 @@
+import java.lang.reflect.InvocationTargetException;
+import java.lang.reflect.Method;
+
 /** Long runs of calls, right and wrong ones, whose every answer must be that of PlainModel. */
 public final class OracleTest {
     private static final int RUNS = 3000;
@@ -14,7 +17,11 @@ public final class OracleTest {
     };
     // How often each call comes, so that runs reach conflicts and limits and ask for what came.
     private static final int[] OFTEN = {
-        12, 12, 60, 14, 10, 8, 4, 3, 12, 14, 16, 2, 8, 14, 16, 14, 16, 12, 4, 3, 14, 14,
+        10, 8, 70, 6, 12, 10, 4, 3, 8, 2, 2, 1, 8, 14, 16, 14, 16, 12, 4, 3, 14, 14,
+    };
+    // Every run starts with a version that has five things: call, and its first two arguments.
+    private static final int[][] START = {
+        {0, 0, 0}, {1, 0, 0}, {1, 0, 1}, {1, 0, 2}, {1, 0, 3}, {1, 0, 4}, {8, 0, 0}, {0, 1, 1},
     };
     private static final int[] WILD = {
         -1, -2, 5, 6, 10, 20, 40, 59, 60, 61, 300, Integer.MAX_VALUE, Integer.MIN_VALUE,
@@ -35,20 +42,38 @@ public final class OracleTest {
         due.end();
     }
 
+    // Styles: 0 few things and many sessions, for conflicts; 1 all things; 2 one session that is
+    // changed up to its last moment.
     private static void compareRun(int run) {
         ModelMerge x = new ModelMerge();
         PlainModel plain = new PlainModel();
         int style = run % 3;
         for (int call = 0; call < CALLS && due.wrongSoFar() == 0; call++) {
-            int which = pick();
-            int[] a = arguments(which, plain, style);
-            String want = Due.outcome(() -> ask(plain, which, a));
-            String got = Due.outcome(() -> ask(x, which, a));
-            due.compare("run " + run + ", call " + call + ": " + text(which, a), want, got);
+            int which = call < START.length ? START[call][0] : pick(plain, style);
+            int[] a = call < START.length ? startArguments(call) : arguments(which, plain, style);
+            String want = ask(plain, which, a);
+            String name = "run " + run + ", call " + call + ": " + text(which, a);
+            due.compare(name, want, ask(x, which, a));
         }
     }
 
-    private static int pick() {
+    private static int[] startArguments(int call) {
+        return new int[] {START[call][1], START[call][2], 0, 0};
+    }
+
+    private static boolean isPending(PlainModel plain) {
+        for (int session = 0; session < plain.count(2); session++) {
+            if (plain.told(session, 0) == 1) {
+                return true;
+            }
+        }
+        return false;
+    }
+
+    private static int pick(PlainModel plain, int style) {
+        if (isPending(plain) && next(3) == 0) {
+            return next(30) == 0 ? 11 : next(3) == 0 ? 10 : 9;
+        }
         int all = 0;
         for (int often : OFTEN) {
             all += often;
@@ -59,7 +84,8 @@ public final class OracleTest {
             left -= OFTEN[which];
             which++;
         }
-        return which;
+        boolean tooEarly = style == 2 && (which == 0 || which == 8) && next(30) != 0;
+        return tooEarly ? 2 : which;
     }
 
     private static String text(int which, int[] a) {
@@ -80,17 +106,27 @@ public final class OracleTest {
 
     private static int recent(int count) {
         int from = Math.max(0, count - 4);
-        return next(3) == 0 ? next(count + 1) : from + next(Math.max(1, count - from));
+        return next(10) == 0 ? next(count + 1) : from + next(Math.max(1, count - from));
+    }
+
+    private static int someSession(PlainModel plain) {
+        int session = recent(plain.count(2));
+        for (int tries = 0; tries < 6 && session < plain.count(2); tries++) {
+            if (plain.told(session, 0) == 0) {
+                return session;
+            }
+            session = recent(plain.count(2));
+        }
+        return session;
     }
 
     private static int fitting(int which, int i, PlainModel plain, int style) {
         int versions = plain.count(0);
-        // Few things make more conflicts; many of them reach the limits.
-        int thing = style == 0 ? next(5) : style == 1 ? recent(plain.count(1)) : next(3);
-        int session = recent(plain.count(2));
+        int thing = style == 1 ? recent(plain.count(1)) : next(5);
+        int session = someSession(plain);
         switch (NAMES[which]) {
             case "session":
-                return i == 0 ? next(10) : recent(versions);
+                return i == 0 ? next(3) : recent(versions);
             case "make":
                 return i == 0 ? session : next(5);
             case "set":
@@ -105,7 +141,7 @@ public final class OracleTest {
             case "join":
                 return session;
             case "lock":
-                return i == 0 ? thing : next(3) == 0 ? next(10) : -1;
+                return i == 0 ? thing : next(3) == 0 ? next(3) : -1;
             case "rule":
                 return next(5);
             case "conflict":
@@ -130,57 +166,21 @@ public final class OracleTest {
         }
     }
 
-    private static int ask(ModelMerge x, int which, int[] a) {
-        switch (NAMES[which]) {
-            case "session": return x.session(a[0], a[1]);
-            case "make": return x.make(a[0], a[1]);
-            case "set": return x.set(a[0], a[1], a[2], a[3]);
-            case "drop": return x.drop(a[0], a[1]);
-            case "undo": return x.undo(a[0]);
-            case "redo": return x.redo(a[0]);
-            case "lock": return x.lock(a[0], a[1]);
-            case "rule": return x.rule(a[0], a[1], a[2]);
-            case "join": return x.join(a[0]);
-            case "conflict": return x.conflict(a[0], a[1]);
-            case "settle": return x.settle(a[0], a[1]);
-            case "giveUp": return x.giveUp();
-            case "here": return x.here(a[0], a[1]);
-            case "now": return x.now(a[0], a[1], a[2]);
-            case "there": return x.there(a[0], a[1], a[2]);
-            case "at": return x.at(a[0], a[1], a[2]);
-            case "since": return x.since(a[0], a[1], a[2]);
-            case "told": return x.told(a[0], a[1]);
-            case "author": return x.author(a[0]);
-            case "count": return x.count(a[0]);
-            case "differs": return x.differs(a[0], a[1], a[2]);
-            default: return x.broken(a[0], a[1]);
+    // By reflection, so that one list of calls serves both sides.
+    private static String ask(Object model, int which, int[] a) {
+        Class<?>[] types = new Class<?>[PARAMETERS[which]];
+        Object[] values = new Object[types.length];
+        for (int i = 0; i < types.length; i++) {
+            types[i] = int.class;
+            values[i] = a[i];
         }
-    }
-
-    private static int ask(PlainModel x, int which, int[] a) {
-        switch (NAMES[which]) {
-            case "session": return x.session(a[0], a[1]);
-            case "make": return x.make(a[0], a[1]);
-            case "set": return x.set(a[0], a[1], a[2], a[3]);
-            case "drop": return x.drop(a[0], a[1]);
-            case "undo": return x.undo(a[0]);
-            case "redo": return x.redo(a[0]);
-            case "lock": return x.lock(a[0], a[1]);
-            case "rule": return x.rule(a[0], a[1], a[2]);
-            case "join": return x.join(a[0]);
-            case "conflict": return x.conflict(a[0], a[1]);
-            case "settle": return x.settle(a[0], a[1]);
-            case "giveUp": return x.giveUp();
-            case "here": return x.here(a[0], a[1]);
-            case "now": return x.now(a[0], a[1], a[2]);
-            case "there": return x.there(a[0], a[1], a[2]);
-            case "at": return x.at(a[0], a[1], a[2]);
-            case "since": return x.since(a[0], a[1], a[2]);
-            case "told": return x.told(a[0], a[1]);
-            case "author": return x.author(a[0]);
-            case "count": return x.count(a[0]);
-            case "differs": return x.differs(a[0], a[1], a[2]);
-            default: return x.broken(a[0], a[1]);
+        try {
+            Method method = model.getClass().getDeclaredMethod(NAMES[which], types);
+            return method.invoke(model, values).toString();
+        } catch (InvocationTargetException e) {
+            return "throws." + e.getCause().getClass().getSimpleName();
+        } catch (ReflectiveOperationException e) {
+            throw new IllegalStateException(e);
         }
     }
 }
