@@ -1,6 +1,6 @@
 /** Counts the calls of one test whose answer is not the one that is due. */
 final class Due {
-    interface Call {
+    interface Question {
         int answer();
     }
 
@@ -12,16 +12,16 @@ final class Due {
         this.test = test;
     }
 
-    void answer(String what, int want, Call call) {
-        compare(what, Integer.toString(want), outcome(call));
+    void answer(String what, int want, Question question) {
+        compare(what, Integer.toString(want), outcome(question));
     }
 
-    void illegalArgument(String what, Call call) {
-        compare(what, "throws.IllegalArgumentException", outcome(call));
+    void illegalArgument(String what, Question question) {
+        compare(what, "throws.IllegalArgumentException", outcome(question));
     }
 
-    void illegalState(String what, Call call) {
-        compare(what, "throws.IllegalStateException", outcome(call));
+    void illegalState(String what, Question question) {
+        compare(what, "throws.IllegalStateException", outcome(question));
     }
 
     void compare(String what, String want, String got) {
@@ -33,9 +33,9 @@ final class Due {
     }
 
     // Every exception is an outcome here, so that one of the machine's is seen and counted.
-    static String outcome(Call call) {
+    static String outcome(Question question) {
         try {
-            return Integer.toString(call.answer());
+            return Integer.toString(question.answer());
         } catch (RuntimeException e) {
             return "throws." + e.getClass().getSimpleName();
         }

@@ -1,5 +1,4 @@
-import java.lang.reflect.InvocationTargetException;
-import java.lang.reflect.Method;
+import java.util.Arrays;
 
 /** Long runs of calls, right and wrong ones, whose every answer must be that of PlainModel. */
 public final class OracleTest {
@@ -51,9 +50,10 @@ public final class OracleTest {
         for (int call = 0; call < CALLS && due.wrongSoFar() == 0; call++) {
             int which = call < START.length ? START[call][0] : pick(plain, style);
             int[] a = call < START.length ? startArguments(call) : arguments(which, plain, style);
-            String want = ask(plain, which, a);
-            String name = "run " + run + ", call " + call + ": " + text(which, a);
-            due.compare(name, want, ask(x, which, a));
+            Call asked = new Call(NAMES[which], Arrays.copyOf(a, PARAMETERS[which]));
+            String want = asked.outcome(plain);
+            String name = "run " + run + ", call " + call + ": " + asked;
+            due.compare(name, want, asked.outcome(x));
         }
     }
 
@@ -86,14 +86,6 @@ public final class OracleTest {
         }
         boolean tooEarly = style == 2 && (which == 0 || which == 8) && next(30) != 0;
         return tooEarly ? 2 : which;
-    }
-
-    private static String text(int which, int[] a) {
-        StringBuilder text = new StringBuilder(NAMES[which]).append('(');
-        for (int i = 0; i < PARAMETERS[which]; i++) {
-            text.append(i == 0 ? "" : ", ").append(a[i]);
-        }
-        return text.append(')').toString();
     }
 
     private static int[] arguments(int which, PlainModel plain, int style) {
@@ -163,24 +155,6 @@ public final class OracleTest {
                 return i < 2 ? recent(versions) : next(6);
             default:
                 return i == 0 ? recent(versions) : next(8);
-        }
-    }
-
-    // By reflection, so that one list of calls serves both sides.
-    private static String ask(Object model, int which, int[] a) {
-        Class<?>[] types = new Class<?>[PARAMETERS[which]];
-        Object[] values = new Object[types.length];
-        for (int i = 0; i < types.length; i++) {
-            types[i] = int.class;
-            values[i] = a[i];
-        }
-        try {
-            Method method = model.getClass().getDeclaredMethod(NAMES[which], types);
-            return method.invoke(model, values).toString();
-        } catch (InvocationTargetException e) {
-            return "throws." + e.getCause().getClass().getSimpleName();
-        } catch (ReflectiveOperationException e) {
-            throw new IllegalStateException(e);
         }
     }
 }
