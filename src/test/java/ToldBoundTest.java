@@ -13,6 +13,7 @@ public final class ToldBoundTest {
         promise16ThereAgain();
         promise17AlsoIfNotThere();
         promise18SinceWhichVersion();
+        promise18BothToTheSame();
         promise18ThereAgain();
         promise18UpToTheLastVersion();
         promise19OfASession();
@@ -151,6 +152,22 @@ public final class ToldBoundTest {
         Run y = sample("since, settled for THEIRS");
         y.gives(0, "settle", 0, 1).gives(3, "since", 3, 0, 0).gives(1, "since", 3, 0, 1);
         y.gives(2, "since", 2, 0, 0);
+    }
+
+    // "the version of the joining that changed it": a joining that brings the value which is there
+    // already, or the one that the base had, changes nothing.
+    private static void promise18BothToTheSame() {
+        Run x = new Run(due, "since, both to the same");
+        x.does("session", 0, 0).does("make", 0, 0).does("set", 0, 0, 1, 4).does("join", 0);
+        x.does("session", 0, 1).does("session", 0, 1);
+        x.does("set", 1, 0, 0, MIN).does("set", 1, 0, 1, 5).does("set", 1, 0, 2, 6);
+        x.does("set", 2, 0, 0, MIN).does("set", 2, 0, 1, 4).does("set", 2, 0, 3, 0);
+        x.gives(0, "join", 1).gives(0, "join", 2);
+        int[] since = {2, 2, 2, 1, 1};
+        for (int field = 0; field < 5; field++) {
+            x.gives(since[field], "since", 3, 0, field);
+        }
+        x.gives(3, "there", 2, 0, 2).gives(0, "there", 3, 0, 2).gives(NONE, "differs", 2, 3, 0);
     }
 
     // "or by which the thing came to be there": all of its fields, changed or not.
