@@ -201,6 +201,7 @@ public final class JoinBoundTest {
             x.gives(k / 5, "conflict", k, 0).gives(k % 5, "conflict", k, 1);
             x.gives(100 + k, "conflict", k, 2).gives(200 + k, "conflict", k, 3);
         }
+        x.gives(58, "settle", 58, 1);
         for (int k = 58; k >= 0; k--) {
             x.gives(k, "settle", k, k % 2);
         }
