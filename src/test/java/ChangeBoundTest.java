@@ -76,7 +76,7 @@ public final class ChangeBoundTest {
     private static void promise2ThereAreTwentyWhileOneIsPending() {
         Run x = pending("twenty sessions while one is pending");
         for (int i = 3; i < 20; i++) {
-            x.gives(i, "session", 0, i % 3);
+            x.gives(i, "session", 0, i % 3).gives(i % 3, "told", i, 2);
         }
         x.illegalState("session", 0, 0);
         x.gives(1, "told", 2, 0).gives(2, "giveUp");

@@ -17,6 +17,7 @@ public final class JoinBoundTest {
         promise10MostConflictsOfFields();
         promise10MostConflictsOfThings();
         promise11ByThingsThenFields();
+        promise11SettledOrNot();
         promise11WhileOneIsPending();
         promise12InAnyOrder();
         promise12AlsoAnew();
@@ -262,6 +263,24 @@ public final class JoinBoundTest {
         x.gives(0, "conflict", 2, 3).gives(1, "conflict", 2, 2);
     }
 
+    // The values of MINE and THEIRS are told as they were, for whichever side it is settled.
+    private static void promise11SettledOrNot() {
+        int[][] want = {{0, 0, 10, 20}, {0, 4, 14, 24}, {1, NONE, 1, 0}};
+        for (int side = 0; side < 2; side++) {
+            for (int k = 0; k < 3; k++) {
+                Run x = twoFieldsAndAThing("conflict " + k + " settled for side " + side);
+                x.gives(3, "join", 2).gives(2, "settle", k, side);
+                for (int other = 0; other < 3; other++) {
+                    for (int what = 0; what < 4; what++) {
+                        x.gives(want[other][what], "conflict", other, what);
+                    }
+                    x.gives(other == k ? side : NONE, "conflict", other, 4);
+                }
+                x.gives(20, "now", 2, 0, 0).gives(0, "here", 2, 1).gives(10, "at", 2, 0, 0);
+            }
+        }
+    }
+
     // What other sessions do, and locks and rules, leave the pending one's conflicts alone.
     private static void promise11WhileOneIsPending() {
         Run x = twoFieldsAndAThing("while one is pending");
@@ -272,6 +291,7 @@ public final class JoinBoundTest {
         x.gives(10, "conflict", 0, 2).gives(20, "conflict", 0, 3).gives(1, "conflict", 2, 2);
         x.gives(2, "settle", 0, 1).gives(1, "settle", 1, 1).gives(0, "settle", 2, 1);
         x.gives(20, "at", 3, 0, 0).gives(24, "at", 3, 0, 4).gives(0, "there", 3, 1, 0);
+        x.gives(0, "there", 3, 2, 0).gives(1, "here", 3, 2).gives(9, "lock", 0, NONE);
         x.gives(1, "join", 3).gives(20, "conflict", 0, 2).gives(99, "conflict", 0, 3);
     }
 

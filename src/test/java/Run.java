@@ -1,5 +1,7 @@
 import java.util.ArrayList;
 import java.util.List;
+import java.util.Map;
+import java.util.TreeSet;
 
 /** Calls in a row on one new object, and what is due of each. */
 final class Run {
@@ -35,6 +37,26 @@ final class Run {
         Call asked = new Call(call, arguments);
         compare(asked, Integer.toString(want), outcome(asked));
         keep(asked);
+        return this;
+    }
+
+    /**
+     * A call that is answered, and what is told otherwise behind it than ahead of it: these
+     * questions and no others. (What is asked on one side of it alone is left out.)
+     */
+    Run changes(List<String> questions, String call, int... arguments) {
+        Call asked = new Call(call, arguments);
+        Map<String, String> before = Whole.answers(whole());
+        does(call, arguments);
+        Map<String, String> behind = Whole.answers(whole());
+        TreeSet<String> changed = new TreeSet<>();
+        for (String question : before.keySet()) {
+            String now = behind.get(question);
+            if (now != null && !before.get(question).equals(now)) {
+                changed.add(question);
+            }
+        }
+        compare(asked, "changes " + new TreeSet<>(questions), "changes " + changed);
         return this;
     }
 

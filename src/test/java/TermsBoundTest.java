@@ -46,15 +46,35 @@ public final class TermsBoundTest {
         x.gives(0, "join", 0).gives(59, "at", 1, 0, 0);
     }
 
-    // Promise 1, "Version 0 alone", also while other objects are in use.
+    // Promise 1, "Version 0 alone", also while other objects are in use: things, sessions, rules,
+    // locks and conflicts of the one are not those of the other.
     private static void objectsShareNothing() {
         Run x = new Run(due, "one object");
         x.does("session", 0, 0).does("make", 0, 3).does("rule", 3, 0, 0).does("join", 0);
+        x.does("lock", 0, 6);
         Run y = new Run(due, "another object");
         y.gives(1, "count", 0).gives(0, "count", 1).gives(0, "count", 2).gives(0, "count", 3);
         y.gives(0, "session", 1, 0).gives(0, "make", 0, 1);
         x.gives(3, "there", 1, 0, 1).gives(0, "told", 0, 1).gives(0, "broken", 1, 0);
         y.gives(1, "there", 0, 0, 1).gives(1, "told", 0, 1).gives(NONE, "broken", 0, 0);
+        y.gives(NONE, "lock", 0, 7).gives(0, "rule", 1, 1, 1).gives(0, "join", 0);
+        x.gives(6, "lock", 0, NONE).gives(0, "broken", 1, 0);
+        y.gives(7, "lock", 0, NONE).gives(NONE, "broken", 1, 0);
+        conflictsOfTwoObjects(x, y);
+    }
+
+    private static void conflictsOfTwoObjects(Run x, Run y) {
+        x.does("session", 0, 1).does("session", 0, 1).does("set", 1, 0, 2, 1);
+        x.does("set", 2, 0, 2, 2).gives(0, "join", 1).gives(1, "join", 2);
+        y.illegalState("conflict", 0, 0).illegalState("settle", 0, 1).illegalState("giveUp");
+        y.does("session", 0, 1).does("session", 0, 1);
+        y.does("set", 1, 0, 3, 3).does("set", 1, 0, 4, 4).does("set", 2, 0, 3, 5);
+        y.does("set", 2, 0, 4, 6).gives(0, "join", 1).gives(2, "join", 2);
+        y.gives(1, "settle", 0, 0);
+        x.gives(2, "conflict", 0, 1).gives(NONE, "conflict", 0, 4);
+        x.illegalArgument("conflict", 1, 0).gives(0, "settle", 0, 1).gives(2, "at", 3, 0, 2);
+        y.gives(3, "conflict", 0, 1).gives(0, "conflict", 0, 4).gives(0, "settle", 1, 1);
+        y.gives(3, "at", 3, 0, 3).gives(6, "at", 3, 0, 4).gives(0, "at", 3, 0, 2);
     }
 
     // "THINGS are 0 .. 59 as they come"

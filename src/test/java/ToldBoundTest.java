@@ -8,6 +8,7 @@ public final class ToldBoundTest {
     public static void main(String[] args) {
         promise14HereOrNot();
         promise15AlsoIfNotThere();
+        promise15OverTellsItsOwn();
         promise16WhetherItIsThere();
         promise16HowManyFieldsDiffer();
         promise16ThereAgain();
@@ -126,6 +127,31 @@ public final class ToldBoundTest {
         x.does("session", 0, 3).gives(0, "join", 3).gives(0, "there", 4, 0, 2);
     }
 
+    // "Its state is that of the moment at which it stands": a session that is over tells its own
+    // state, not the one that was joined; versions and sessions that were there stay as they are.
+    private static void promise15OverTellsItsOwn() {
+        Run x = new Run(due, "now, in a session that is over");
+        x.does("session", 0, 0).does("make", 0, 0).does("make", 0, 0).does("join", 0);
+        x.does("session", 0, 1).does("session", 0, 1).does("session", 0, 1);
+        x.does("set", 1, 0, 0, 1).does("set", 1, 0, 1, 1).does("drop", 1, 1).does("make", 1, 0);
+        x.does("set", 2, 0, 0, 2).does("set", 2, 0, 2, 2).gives(0, "join", 1).gives(1, "join", 2);
+        x.gives(0, "settle", 0, 0).gives(0, "join", 3);
+        int[][] want = {{0, 0, 0}, {1, 1, 0}, {2, 0, 2}, {0, 0, 0}};
+        for (int session = 0; session < 4; session++) {
+            for (int field = 0; field < 3; field++) {
+                x.gives(want[session][field], "now", session, 0, field);
+            }
+            x.gives(session == 1 ? 0 : 1, "here", session, 1);
+            x.gives(session == 1 ? 1 : 0, "here", session, 2);
+        }
+        int[][] versions = {{0, 0, 0}, {1, 1, 0}, {1, 1, 2}, {1, 1, 2}};
+        for (int version = 1; version < 5; version++) {
+            for (int field = 0; field < 3; field++) {
+                x.gives(versions[version - 1][field], "at", version, 0, field);
+            }
+        }
+    }
+
     // "A field in a version. Illegal argument: also if the thing is not there."
     private static void promise17AlsoIfNotThere() {
         Run x = sample("at");
@@ -227,7 +253,8 @@ public final class ToldBoundTest {
         x.gives(59, "told", 19, 3).gives(60, "told", 19, 4).gives(1, "told", 0, 5);
     }
 
-    // "Which session made a version (not 0)."
+    // "Which session made a version (not 0)." Sessions that join in another order than that in
+    // which they came; told() answers the other way round.
     private static void promise20WhichSession() {
         Run x = new Run(due, "author");
         x.illegalArgument("author", 0).illegalArgument("author", 1).illegalArgument("author", -1);
@@ -236,6 +263,7 @@ public final class ToldBoundTest {
         }
         for (int i = 0; i < 20; i++) {
             x.gives(0, "join", 19 - i).gives(19 - i, "author", i + 1);
+            x.gives(i + 1, "told", 19 - i, 5);
             x.wouldGive(Run.ARGUMENT, "author", i + 2);
         }
         x.gives(19, "author", 1).gives(0, "author", 20);

@@ -1,5 +1,7 @@
 import java.util.ArrayList;
+import java.util.LinkedHashMap;
 import java.util.List;
+import java.util.Map;
 
 /**
  * All that can be told of an object behind some calls. An object is good for 512 calls, so the
@@ -8,6 +10,9 @@ import java.util.List;
 final class Whole {
     private static final int FIELDS = 5;
     private static final int MOMENTS = 60;
+    // So many broken things are asked for of older versions; of the latest one, many more.
+    private static final int FEW = 3;
+    private static final String IS = " = ";
 
     private final List<Call> calls;
     private final int room;
@@ -29,6 +34,16 @@ final class Whole {
         whole.askForLocks();
         whole.askForTrees();
         return whole.told;
+    }
+
+    /** Each question with its answer, or, where it was asked often, with all of them in a row. */
+    static Map<String, String> answers(List<String> told) {
+        Map<String, String> answers = new LinkedHashMap<>();
+        for (String line : told) {
+            int at = line.indexOf(IS);
+            answers.merge(line.substring(0, at), line.substring(at), String::concat);
+        }
+        return answers;
     }
 
     static ModelMerge played(List<Call> calls) {
@@ -61,7 +76,7 @@ final class Whole {
             for (int what = 0; what < 5; what++) {
                 ask("conflict", k, what);
             }
-            ask("broken", versions - 1, k);
+            ask("broken", versions - 1, FEW + k);
         }
     }
 
@@ -79,6 +94,9 @@ final class Whole {
 
     private void listOfVersion(int version, int things) {
         ask("author", version);
+        for (int k = 0; k < FEW; k++) {
+            ask("broken", version, k);
+        }
         for (int thing = 0; thing < things; thing++) {
             for (int what = 0; what < 3; what++) {
                 ask("there", version, thing, what);
@@ -91,7 +109,7 @@ final class Whole {
     }
 
     private void tell(ModelMerge model, Call call) {
-        told.add(call + " = " + call.outcome(model));
+        told.add(call + IS + call.outcome(model));
     }
 
     private void askAll() {
