@@ -71,9 +71,9 @@ public final class WhatChangesTest {
     }
 
     private static void promise2Session(Run x) {
-        x.changes(questions("count(2)"), "session", 4, 1);
-        x.changes(questions("count(2)"), "session", 4, 1);
-        x.changes(questions("count(2)"), "session", 2, 0);
+        for (int session = 4; session < 20; session++) {
+            x.changes(questions("count(2)"), "session", session % 10, session % 3);
+        }
     }
 
     private static void promise3Make(Run x) {
